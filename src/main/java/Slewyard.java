@@ -147,8 +147,7 @@ public final class Slewyard {
         if (number >= MOST_CRANES || !site.canFound(cell)) {
             throw new IllegalStateException("no more cranes, or none there");
         }
-        Crane newcomer = new Crane(site.ground, number, cell);
-        newcomer.fit(mast, reach, moment);
+        Crane newcomer = new Crane(site.ground, number, cell, mast, reach, moment);
         newcomer.drawIn(bearing);
         if (site.hindrance(newcomer, false, 0) != 0) {
             throw new IllegalStateException("no room for it");
@@ -523,40 +522,40 @@ public final class Slewyard {
         private int tower;
         private int row;
         private int column;
-        private int mast = LEAST_MAST;
-        private int reach = LEAST_REACH;
-        private int moment = LEAST_MOMENT;
+        private int mast;
+        private int reach;
+        private int moment;
         private int bearing = 0;
         /** How many CELLS the JIB has beyond the TOWER: up to REACH, or to the edge of the YARD. */
         private int arm = 0;
         private int radius = 1;
-        private int hook = LEAST_MAST - 1;
+        private int hook;
         private int sway = 0;
         private int work = 0;
         private Load load = null;
         private int nearMisses = 0;
 
-        Crane(Ground ground, int number, int tower) {
+        Crane(Ground ground, int number, int tower, int mast, int reach, int moment) {
             this.ground = ground;
             this.number = number;
             this.tower = tower;
             this.row = ground.rowOf(tower);
             this.column = ground.columnOf(tower);
+            this.mast = mast;
+            this.reach = reach;
+            this.moment = moment;
+            this.hook = mast - 1;
         }
 
-        void fit(int newMast, int newReach, int newMoment) {
-            mast = newMast;
-            reach = newReach;
-            moment = newMoment;
-        }
-
-        /** Becomes what the other one is, but for what a driver and the past make: plans do not ask for that. */
+        /** Stands as the other one does. SWAY, WORK and NEAR MISSES are left out: no plan asks for them. */
         void mimic(Crane other) {
             number = other.number;
             tower = other.tower;
             row = other.row;
             column = other.column;
-            fit(other.mast, other.reach, other.moment);
+            mast = other.mast;
+            reach = other.reach;
+            moment = other.moment;
             bearing = other.bearing;
             arm = other.arm;
             radius = other.radius;
@@ -708,7 +707,7 @@ public final class Slewyard {
 
         Site(Ground ground) {
             this.ground = ground;
-            this.trial = new Crane(ground, NONE, 0);
+            this.trial = new Crane(ground, NONE, 0, LEAST_MAST, LEAST_REACH, LEAST_MOMENT);
         }
 
         void lay(int wide, int high) {
@@ -869,8 +868,8 @@ public final class Slewyard {
             return sum;
         }
 
-        /** The first of the reasons 1, 4, 5, 6 and 7 against a CRANE's being so; clashing are those that may CLASH. */
-        int hindrance(Crane crane, boolean isAcross, int clashing) {
+        /** The first of the reasons 1, 4, 5, 6 and 7 against a CRANE as it stands; it may CLASH with those allowed. */
+        int hindrance(Crane crane, boolean isAcross, int allowed) {
             if (!crane.isPossible()) {
                 return 1;
             }
@@ -886,7 +885,7 @@ public final class Slewyard {
                 return 6;
             }
             for (int k = 0; k < cranes.size(); k++) {
-                boolean isOther = k != crane.number && (clashing >> k & 1) == 0;
+                boolean isOther = k != crane.number && (allowed >> k & 1) == 0;
                 if (isOther && crane.clashRule(cranes.get(k), TOUCHING) != 0) {
                     return 7;
                 }

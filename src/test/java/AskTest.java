@@ -237,14 +237,6 @@ final class AskTest extends Checks {
         is("0 7 0 1 1 0 0", wouldAll(clash, 0));
     }
 
-    private static String wouldAll(Slewyard site, int crane) {
-        int[] answers = new int[7];
-        for (int motion = 0; motion < answers.length; motion++) {
-            answers[motion] = site.would(crane, motion);
-        }
-        return row(answers);
-    }
-
     private static void promise16Bounds() {
         Slewyard site = tenByTen();
         site.crane(55, 4, 3, 61, 2);
@@ -671,6 +663,14 @@ final class AskTest extends Checks {
         load.level(1, 20);
         load.load(1, 1);
         is(true, load.isSound());
+        Slewyard edge = tenByTen();
+        edge.crane(11, 3, 2, 60, 7);
+        is("0 true", row(edge.ofCrane(0, 10)) + " " + edge.isSound());
+        is(11, edge.field(0));
+        is("0 1 1 4", ways(edge, 0, 0, 1, 10, 13));
+        steps(edge, 0, 0, 3);
+        steps(edge, 0, 2, 1);
+        is("2 13 true", row(edge.ofCrane(0, 5), edge.ofCrane(0, 10)) + " " + edge.isSound());
     }
 
     private static void promise25Knock() {

@@ -92,4 +92,13 @@ abstract class Checks {
         }
         return row(numbers);
     }
+
+    /** would() for each motion, as one text. */
+    static String wouldAll(Slewyard site, int crane) {
+        int[] answers = new int[7];
+        for (int motion = 0; motion < answers.length; motion++) {
+            answers[motion] = site.would(crane, motion);
+        }
+        return row(answers);
+    }
 }

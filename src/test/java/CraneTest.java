@@ -369,7 +369,12 @@ final class CraneTest extends Checks {
         is(0, site.step(0, 4));
         is(0, site.step(0, 2));
         is(0, site.step(0, 5));
-        is(58, site.ofCrane(0, 10));
+        is("58 2", row(site.ofCrane(0, 10), site.ofCrane(0, 6)));
+        is("0 0 4 6 0 6 0", wouldAll(site, 0));
+        site.level(88, 1);
+        site.level(28, 1);
+        is("6 6 4 6 0 6 0", wouldAll(site, 0));
+        is(6, site.step(0, 3));
         is(0, site.set(0));
         is(0, site.step(0, 3));
     }
