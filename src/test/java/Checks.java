@@ -29,15 +29,23 @@ abstract class Checks {
     /** The class has to be just that one: what the machine itself throws is a class below it. */
     private static void fails(Class<?> want, Call call) {
         made++;
-        Class<?> got = null;
+        String got = "nothing";
         try {
             call.make();
         } catch (RuntimeException e) {
-            got = e.getClass();
+            got = thrown(e);
         }
-        if (got != want) {
-            tell("threw " + got + ", due is " + want);
+        if (!got.equals(want.getName())) {
+            tell("threw " + got + ", due is " + want.getName());
         }
+    }
+
+    /** The name of an exception, and where it comes from, if no throw of the tested code itself made it. */
+    static String thrown(RuntimeException e) {
+        StackTraceElement[] places = e.getStackTrace();
+        String place = places.length == 0 ? "the machine" : places[0].getClassName();
+        boolean isItsOwn = place.startsWith("Slewyard") || place.startsWith("Model");
+        return isItsOwn ? e.getClass().getName() : e.getClass().getName() + " of " + place;
     }
 
     private static void tell(String what) {

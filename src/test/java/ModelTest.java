@@ -121,7 +121,7 @@ final class ModelTest extends Checks {
         try {
             return String.valueOf(call.make());
         } catch (RuntimeException e) {
-            return e.getClass().getName();
+            return thrown(e);
         }
     }
 
