@@ -1,5 +1,5 @@
 /** Promises 13 to 26: what is asked. A YARD of 10 x 10 has ROW and COLUMN as digits. */
-final class AskTest extends Checks {
+final class AskTest extends Scenes {
     private static final int[] FAR_OFF = {-1, 4, Integer.MIN_VALUE, Integer.MAX_VALUE};
 
     public static void main(String[] args) {
@@ -37,12 +37,6 @@ final class AskTest extends Checks {
         end("AskTest");
     }
 
-    private static Slewyard tenByTen() {
-        Slewyard site = new Slewyard();
-        is(100, site.yard(10, 10));
-        return site;
-    }
-
     /** A CRANE at 55 that has a LOAD on its HOOK at 56; the HOOK is 1 above the ground. */
     private static Slewyard withALoad(int moment, int weight) {
         Slewyard site = tenByTen();
@@ -50,17 +44,6 @@ final class AskTest extends Checks {
         is(0, site.load(56, weight));
         steps(site, 0, 5, 2);
         is(0, site.hang(0));
-        return site;
-    }
-
-    /** Two CRANES that the WIND of TIME 1 laid side by side: JIBS 52, 53, 54 and 55, 56, 57. */
-    private static Slewyard clashing() {
-        Slewyard site = tenByTen();
-        is(0, site.crane(52, 10, 2, 60, 6));
-        is(1, site.crane(55, 10, 2, 60, 2));
-        site.wind(1, 8, 2);
-        is(1, site.rest(1));
-        site.wind(1, 0, 0);
         return site;
     }
 
@@ -684,36 +667,6 @@ final class AskTest extends Checks {
         argument(() -> site.yard(1, 1));
         is(4, site.knock());
         is("100 0 0 0 0 0 0 0 0 0 0 0 0 0 4", many(site));
-    }
-
-    /** The checksum, made from the answers of the other calls. */
-    private static long summed(Slewyard site) {
-        long d = 8821;
-        for (int what = 0; what <= 14; what++) {
-            d = d * 31 + site.many(what);
-        }
-        for (int cell = 0; cell < site.many(0); cell++) {
-            for (int what = 0; what <= 4; what++) {
-                d = d * 31 + site.ofCell(cell, what);
-            }
-        }
-        for (int crane = 0; crane < site.many(3); crane++) {
-            for (int what = 0; what <= 14; what++) {
-                d = d * 31 + site.ofCrane(crane, what);
-            }
-            for (int motion = 0; motion <= 6; motion++) {
-                d = d * 31 + site.would(crane, motion);
-            }
-            d = d * 31 + site.field(crane);
-            d = d * 31 + site.swing(crane, false);
-            d = d * 31 + site.swing(crane, true);
-        }
-        for (int load = 0; load < site.many(4); load++) {
-            for (int what = 0; what <= 3; what++) {
-                d = d * 31 + site.ofLoad(load, what);
-            }
-        }
-        return d * 31 + (site.isSound() ? 1 : 0);
     }
 
     private static void promise26Digest() {

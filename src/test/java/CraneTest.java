@@ -1,5 +1,5 @@
 /** Promises 7 to 12: what cranes do. A YARD of 10 x 10 has ROW and COLUMN as digits. */
-final class CraneTest extends Checks {
+final class CraneTest extends Scenes {
     private static final int[] OUTSIDE = {-1, 100, Integer.MIN_VALUE, Integer.MAX_VALUE};
 
     public static void main(String[] args) {
@@ -39,12 +39,6 @@ final class CraneTest extends Checks {
         promise12WhateverClashes();
         promise12Bounds();
         end("CraneTest");
-    }
-
-    private static Slewyard tenByTen() {
-        Slewyard site = new Slewyard();
-        is(100, site.yard(10, 10));
-        return site;
     }
 
     // ---- promise 7
@@ -421,18 +415,6 @@ final class CraneTest extends Checks {
         is(7, low.step(1, 0));
     }
 
-    /** Two CRANES of the same MAST whose JIBS the WIND of TIME 1 laid side by side: 52, 53, 54 and 55, 56, 57. */
-    private static Slewyard clashing() {
-        Slewyard site = tenByTen();
-        is(0, site.crane(52, 10, 2, 60, 6));
-        is(1, site.crane(55, 10, 2, 60, 2));
-        is(1, site.wind(1, 8, 2));
-        is(1, site.rest(1));
-        is(2, site.wind(1, 0, 0));
-        is(1, site.clash(0, 1));
-        return site;
-    }
-
     private static void promise8ClashesThatAreAlready() {
         Slewyard site = clashing();
         is("2 1 1", row(site.ofCrane(0, 13), site.ofCrane(1, 13), site.many(8)));
@@ -641,22 +623,6 @@ final class CraneTest extends Checks {
     }
 
     // ---- promise 11
-
-    /** The first of two CRANES has a LOAD of 20 at 43, the second one its PLUMB at 45; HOOKS are 2 and 2. */
-    private static Slewyard meeting(int moment) {
-        Slewyard site = tenByTen();
-        is(0, site.crane(40, 6, 3, 100, 2));
-        is(1, site.crane(48, 6, 3, moment, 6));
-        is(0, site.load(41, 20));
-        steps(site, 0, 5, 4);
-        is(0, site.hang(0));
-        steps(site, 0, 4, 1);
-        steps(site, 0, 2, 2);
-        steps(site, 1, 2, 2);
-        steps(site, 1, 5, 3);
-        is("43 2 45 2", row(site.ofCrane(0, 10), site.ofCrane(0, 6), site.ofCrane(1, 10), site.ofCrane(1, 6)));
-        return site;
-    }
 
     private static void promise11Hand() {
         Slewyard site = meeting(60);

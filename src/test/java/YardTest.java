@@ -1,5 +1,5 @@
 /** Promises 1 to 6: a new object, and what is told of the yard. A YARD of 10 x 10 has ROW and COLUMN as digits. */
-final class YardTest extends Checks {
+final class YardTest extends Scenes {
     private static final String NOTHING = "0 0 0 0 0 0 0 0 0 0 0 0 0 0 0";
 
     public static void main(String[] args) {
@@ -19,12 +19,6 @@ final class YardTest extends Checks {
         promise6Loads();
         promise6Bounds();
         end("YardTest");
-    }
-
-    private static Slewyard tenByTen() {
-        Slewyard site = new Slewyard();
-        is(100, site.yard(10, 10));
-        return site;
     }
 
     private static void promise1AnObjectWithoutAYard() {
