@@ -15,6 +15,7 @@ final class CraneEdgeTest extends Scenes {
         promise7NotOnATowerALoadOrALevel();
         promise7UnderALoadThatHangs();
         promise7ItsHookAboveTheLevelOfItsPlumb();
+        promise7WhateverIsSoOfAnotherOne();
         promise7TheFirstExceptionOfSeveral();
         promise8OfNoCrane();
         promise8OfNoMotion();
@@ -61,6 +62,19 @@ final class CraneEdgeTest extends Scenes {
                 is(0, site.crane(55, mast, 2, 60, 3));
             }
         }
+    }
+
+    /** A ZONE, a CAPACITY and two above a LEVEL are asked of a LOAD that hangs; a new CRANE has none. */
+    private static void promise7WhateverIsSoOfAnotherOne() {
+        Slewyard site = lifted(60, 60);
+        site.zone(0, 10, 10, 0, 23);
+        site.wind(0, 9, 0);
+        site.level(12, 8);
+        is("2 2 2 1 2 2 0", wouldAll(site, 0));
+        state(() -> site.crane(57, 5, 2, 60, 2));
+        is("0 1", row(site.swing(0, false), site.field(0)));
+        is(1, site.crane(11, 10, 2, 5, 2));
+        is("0 -1", row(site.ofCrane(1, 11), site.ofCrane(1, 9)));
     }
 
     private static void promise7TheFirstExceptionOfSeveral() {
@@ -170,6 +184,7 @@ final class CraneEdgeTest extends Scenes {
         promise11TheFirstHasNoneOrTheSecondHasOne();
         promise11Apart();
         promise11LessApartThan2();
+        promise11ByRadiusNotByReach();
         promise11HooksDiffer();
         promise11SwayUpTo1();
         promise11WeightUpToCapacity();
@@ -407,6 +422,30 @@ final class CraneEdgeTest extends Scenes {
         steps(site, 1, 2, 1);
         is("42 42", row(site.ofCrane(0, 10), site.ofCrane(1, 10)));
         is("0 0", row(site.hand(0, 1), site.hand(1, 0)));
+    }
+
+    /** The JIB of the second one passes by 2 APART from that of the first one; only its RADIUS brings them together. */
+    private static void promise11ByRadiusNotByReach() {
+        int[][] pairs = {{40, 2, 95, 0}, {4, 4, 59, 6}};
+        for (int[] pair : pairs) {
+            for (int radius = 1; radius <= 8; radius++) {
+                Slewyard site = tenByTen();
+                is(0, site.crane(pair[0], 6, 3, 100, pair[1]));
+                is(1, site.crane(pair[2], 6, 8, 100, pair[3]));
+                is(0, site.load(site.ofCrane(0, 10), 20));
+                steps(site, 0, 5, 4);
+                is(0, site.hang(0));
+                steps(site, 0, 4, 1);
+                steps(site, 0, 2, 2);
+                steps(site, 1, 5, 3);
+                steps(site, 1, 2, radius - 1);
+                if (radius >= 3 && radius <= 5) {
+                    is("0 0", row(site.hand(0, 1), site.hand(1, 0)));
+                } else {
+                    cannotHand(site, 0, 1);
+                }
+            }
+        }
     }
 
     private static void promise11HooksDiffer() {

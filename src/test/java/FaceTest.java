@@ -8,12 +8,17 @@ import java.util.TreeSet;
 
 /** The face of the class, and those rules of LANGUAGE.md that a program can look at. */
 final class FaceTest extends Checks {
+    /** Each method, and what it throws: index, argument, state. */
     private static final String[] FACE = {
-        "int yard(int,int)", "int level(int,int)", "int wind(int,int,int)", "int zone(int,int,int,int,int)",
-        "int load(int,int)", "int crane(int,int,int,int,int)", "int step(int,int)", "int hang(int)", "int set(int)",
-        "int hand(int,int)", "int rest(int)", "int ofCrane(int,int)", "int ofLoad(int,int)", "int ofCell(int,int)",
-        "int would(int,int)", "int clash(int,int)", "int way(int,int)", "int field(int)", "int swing(int,boolean)",
-        "int order(int)", "int many(int)", "String drawn(int)", "boolean isSound()", "int knock()", "long digest()",
+        "int yard(int,int) argument", "int level(int,int) index argument state",
+        "int wind(int,int,int) argument state", "int zone(int,int,int,int,int) index argument state",
+        "int load(int,int) index argument state", "int crane(int,int,int,int,int) index argument state",
+        "int step(int,int) index argument state", "int hang(int) index", "int set(int) index",
+        "int hand(int,int) index argument", "int rest(int) argument state", "int ofCrane(int,int) index argument",
+        "int ofLoad(int,int) index argument", "int ofCell(int,int) index argument",
+        "int would(int,int) index argument", "int clash(int,int) index argument", "int way(int,int) index",
+        "int field(int) index", "int swing(int,boolean) index", "int order(int) argument", "int many(int) argument",
+        "String drawn(int) index", "boolean isSound()", "int knock()", "long digest()",
     };
     private static final String[] BANNED = {
         "->", "::", "synchronized", "assert ", "finally", "catch", "static {", "getClass", "hashCode", ".equals(",
@@ -61,7 +66,12 @@ final class FaceTest extends Checks {
         for (Class<?> type : method.getParameterTypes()) {
             text.append(text.charAt(text.length() - 1) == '(' ? "" : ",").append(type.getSimpleName());
         }
-        return text.append(')').toString();
+        text.append(')');
+        for (Class<?> kind : method.getExceptionTypes()) {
+            text.append(kind == IndexOutOfBoundsException.class ? " index" : kind == IllegalArgumentException.class
+                ? " argument" : kind == IllegalStateException.class ? " state" : " " + kind.getName());
+        }
+        return text.toString();
     }
 
     private static boolean isNameOfTheFace(String name) {

@@ -302,12 +302,14 @@ final class StepTermsTest extends Scenes {
         aWayHasNoStepsToWhereItIs();
         aWayGoesRoundTheShorterSide();
         aWayGoesToEachRadius();
+        aWayFromTheLastRadius();
         aWayTakesTheHookAsItIs();
         aLiftIsNotFromItsTower();
         aLiftIsInAllBearingsUpToReach();
         aLiftTakesJustTheCapacity();
         takenDownByOneAsHigh();
         takenDownWithItsWholeWeight();
+        takenDownWithAReachBeyondTheEdge();
         takenDownByItselfUpTo8();
         orderHasTheSmallestNumberFirst();
         orderHasOnlyThoseThatAreThereStill();
@@ -345,6 +347,18 @@ final class StepTermsTest extends Scenes {
         is(51, site.field(0));
         is("0 6 -1 -1", row(site.way(0, 91), site.way(0, 97), site.way(0, 98), site.way(0, 90)));
         is("8 7 6 8 9", row(site.way(0, 188), site.way(0, 6), site.way(0, 12), site.way(0, 168), site.way(0, 84)));
+    }
+
+    private static void aWayFromTheLastRadius() {
+        Slewyard site = new Slewyard();
+        site.yard(14, 14);
+        site.crane(0, 10, 9, 60, 2);
+        steps(site, 0, 2, 8);
+        is("9 27 2", row(site.ofCrane(0, 10), site.field(0), site.swing(0, false)));
+        is("0 1 2 8", row(site.way(0, 9), site.way(0, 135), site.way(0, 126), site.way(0, 1)));
+        is("9 10 -1 -1", row(site.way(0, 15), site.way(0, 14), site.way(0, 0), site.way(0, 10)));
+        site.level(135, 9);
+        is("0 2 4 -1 26", row(site.way(0, 9), site.way(0, 120), site.way(0, 126), site.way(0, 135), site.field(0)));
     }
 
     private static void aWayTakesTheHookAsItIs() {
@@ -411,6 +425,15 @@ final class StepTermsTest extends Scenes {
             is(0, site.crane(44, 10, 2, 5, 6));
             is(1, site.crane(47, 20, 3, moment, 2));
             is(moment >= 36 ? 1 : 0, site.many(13));
+        }
+    }
+
+    private static void takenDownWithAReachBeyondTheEdge() {
+        for (int moment = 40; moment <= 60; moment++) {
+            Slewyard site = tenByTen();
+            is(0, site.crane(44, 10, 9, 5, 6));
+            is(1, site.crane(47, 20, 3, moment, 2));
+            is(row(5, moment >= 57 ? 1 : 0), row(site.ofCrane(0, 12), site.many(13)));
         }
     }
 

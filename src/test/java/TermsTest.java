@@ -292,12 +292,15 @@ final class TermsTest extends Scenes {
         bearingIs0To7();
         aNewCraneIsDrawnIn();
         jibEndsAtReachAndEdge();
+        jibHasNothingBeyondTheEdge();
         plumbIsInTheYard();
         clashAByMastsAndApart();
         clashAAcross();
         clashBByHookAndApart();
         clashBByMasts();
+        clashBInEachBearing();
         clashCByMastsAndApart();
+        clashCWhereverTheHooksAre();
         capacityIsRoundedDown();
         capacityLosesAbove4();
         capacityIs0AtLeast();
@@ -389,6 +392,7 @@ final class TermsTest extends Scenes {
             try {
                 site.crane(tower, 10, reach, 60, turn);
                 cells[bearing] = site.ofCrane(0, 12);
+                is(reach, site.ofCrane(0, 2));
             } catch (IllegalStateException e) {
                 is(IllegalStateException.class.getName(), thrown(e));
             }
@@ -404,6 +408,24 @@ final class TermsTest extends Scenes {
         is("0 0 10 10 10 0 0 0", jibs(14, 14, 0, 9));
         is("10 0 0 0 0 0 10 10", jibs(14, 14, 195, 9));
         is("3 3 9 4 4 3 3 3", jibs(11, 6, 24, 8));
+    }
+
+    /** On a slant the next CELL of the JIB would be 1 APART from the other TOWER, but it is not in the YARD. */
+    private static void jibHasNothingBeyondTheEdge() {
+        int[] towers = {57, 47, 52, 42, 24, 74};
+        int[] bearings = {1, 3, 7, 5, 1, 3};
+        int[] others = {19, 89, 10, 80, 8, 98};
+        int[] aways = {6, 6, 2, 2, 4, 0};
+        for (int k = 0; k < towers.length; k++) {
+            Slewyard site = tenByTen();
+            is(0, site.crane(towers[k], 10, 5, 60, bearings[k]));
+            is(1, site.crane(others[k], 10, 2, 60, aways[k]));
+            is("3 0 0", row(site.ofCrane(0, 12), site.clash(0, 1), site.clash(1, 0)));
+            Slewyard turned = tenByTen();
+            is(0, turned.crane(others[k], 10, 2, 60, aways[k]));
+            is(1, turned.crane(towers[k], 10, 5, 60, bearings[k]));
+            is("3 0 0", row(turned.ofCrane(1, 12), turned.clash(0, 1), turned.clash(1, 0)));
+        }
     }
 
     private static void plumbIsInTheYard() {
@@ -481,6 +503,25 @@ final class TermsTest extends Scenes {
         state(() -> by2.crane(55, 7, 3, 60, 0));
     }
 
+    /** The high one comes along its BEARING to the low one, 6 CELLS away, whose JIB goes on in that BEARING. */
+    private static void clashBInEachBearing() {
+        int[] steps = {-13, -12, 1, 14, 13, 12, -1, -14};
+        for (int bearing = 0; bearing < 8; bearing++) {
+            Slewyard site = new Slewyard();
+            site.yard(13, 13);
+            is(0, site.crane(84, 4, 2, 60, bearing));
+            is(1, site.crane(84 - 6 * steps[bearing], 10, 6, 60, bearing));
+            steps(site, 0, 2, 1);
+            steps(site, 1, 5, 4);
+            steps(site, 1, 2, 3);
+            is("5 4 1", row(site.ofCrane(1, 6), site.ofCrane(1, 5), site.many(9)));
+            is(7, site.step(1, 2));
+            steps(site, 1, 4, 1);
+            steps(site, 1, 2, 2);
+            is("7 6 0", row(site.step(1, 5), site.ofCrane(1, 5), site.clash(0, 1)));
+        }
+    }
+
     /** The JIB from 44 goes to the right edge; TOWERS stand below it, beside it, and 2 APART. */
     private static void clashCByMastsAndApart() {
         int[] towers = {47, 57, 67, 37, 27};
@@ -499,6 +540,16 @@ final class TermsTest extends Scenes {
                     is("0 0", row(site.clash(0, 1), site.clash(1, 0)));
                 }
             }
+        }
+    }
+
+    private static void clashCWhereverTheHooksAre() {
+        for (int hook = 19; hook >= 1; hook--) {
+            Slewyard site = tenByTen();
+            is(0, site.crane(47, 20, 2, 60, 2));
+            is(1, site.crane(44, 10, 2, 60, 1));
+            steps(site, 0, 5, 19 - hook);
+            is(row(hook, 7), row(site.ofCrane(0, 6), site.step(1, 0)));
         }
     }
 

@@ -12,6 +12,7 @@ final class YardEdgeTest extends Scenes {
         promise1WindAndTimeWithoutAYard();
         promise2ASmallerYardHasNothingOfTheOldOne();
         promise2OnlyTheRefusedStay();
+        promise2PlansAreOfTheNewYard();
         promise2IsRefusedAndChangesNothing();
         promise3UnderAHook();
         promise3UnderAHookWithALoad();
@@ -95,6 +96,23 @@ final class YardEdgeTest extends Scenes {
         Slewyard same = tenByTen();
         same.knock();
         is(same.digest(), site.digest());
+    }
+
+    /** Asked of a YARD with more and other CRANES first, all plans are those of the new one. */
+    private static void promise2PlansAreOfTheNewYard() {
+        Slewyard site = tenByTen();
+        int[] corners = {0, 9, 90, 99};
+        for (int k = 0; k < 4; k++) {
+            is(k, site.crane(corners[k], 8, 2, 400, k < 2 ? 4 : 0));
+        }
+        is("4 3", row(site.many(13), site.order(3)));
+        is("6 3", row(site.field(3), site.way(3, 97)));
+        is(100, site.yard(10, 10));
+        is("0 -1", row(site.many(13), site.order(0)));
+        is(0, site.crane(44, 9, 2, 400, 0));
+        is("0 -1 16 -1", row(site.many(13), site.order(0), site.field(0), site.way(0, 97)));
+        is(1, site.crane(99, 8, 2, 400, 0));
+        is("1 1 -1", row(site.many(13), site.order(0), site.order(1)));
     }
 
     private static void promise2IsRefusedAndChangesNothing() {
